@@ -45,10 +45,11 @@ public final class EggThrones {
     private int drawSeed;
 
     public EggThrones() {
+        Table table = new Table();
         text = new Text();
-        laid = new Table();
+        laid = table;
         draft = new Table();
-        now = new Morning(laid);
+        now = new Morning(table);
         past = new Past();
         images = new Images();
         clues = new Clues();
@@ -692,7 +693,10 @@ public final class EggThrones {
         }
 
         int hardness(int e, int boiled) {
-            int hard = 10 * boiled - 5 * sizeOf(e) + ageOf(e) / 3;
+            if (!hasEgg(e)) {
+                return 0;
+            }
+            int hard = 10 * boiled - 5 * sizes[e] + ages[e] / 3;
             return Math.max(0, Math.min(MOST_HARD, hard));
         }
 

@@ -327,7 +327,8 @@ public final class DoneTest {
     private static void wish() {
         EggThrones x = Due.toldOf(Due.USUAL);
         due.is("wish(1, 6)", x.wish(1, 6), 1);
-        due.is("wish(1, 2)", x.wish(1, 2), 6);
+        due.is("wish(1, 1)", x.wish(1, 1), 6);
+        due.is("wish(1, 2)", x.wish(1, 2), 1);
         due.is("wish(1, 7)", x.wish(1, 7), Due.OUTSIDE);
         due.is("wish(1, 0)", x.wish(1, 0), Due.OUTSIDE);
         due.is("wish(4, 1)", x.wish(4, 1), Due.UNKNOWN);

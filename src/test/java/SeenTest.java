@@ -66,6 +66,11 @@ public final class SeenTest {
         due.is("7 alone", x.testNext(), Due.NONE);
         x.see(1, 3);
         due.is("no age", x.testNext(), Due.NONE);
+        for (int age = 0; age <= 30; age++) {
+            x.tear();
+            x.see(1, age);
+            due.is("the one age " + age, x.testNext(), Due.NONE);
+        }
         x.tear();
         due.is("all ages again", x.testNext(), 1);
     }

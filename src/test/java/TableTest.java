@@ -158,6 +158,10 @@ public final class TableTest {
         x.wish(0, 5);
         x.see(1, 1);
         x.write(0, 0);
+        Due.boil(x, 1, 1);
+        x.crown(1);
+        x.minute(3);
+        due.is("one scraped", x.told(10), 1);
         Due.boil(x, 0, 3);
         x.crown(0);
         x.minute(1);
@@ -222,6 +226,11 @@ public final class TableTest {
     }
 
     private static void told() {
+        EggThrones one = Due.toldOf("p1 9 9;e0 1;");
+        one.put(0);
+        one.takeOut(0);
+        due.is("told(13) of egg 0", one.told(13), 1);
+        due.is("told(14) of egg 0", one.told(14), 0);
         EggThrones x = Due.toldOf(Due.USUAL);
         for (int far : Due.FAR) {
             due.is("told(" + far + ")", x.told(far), Due.OUTSIDE);

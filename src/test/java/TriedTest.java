@@ -149,6 +149,10 @@ public final class TriedTest {
         due.is("too few soldiers", few.dynasty(0), 0);
         few.cutToast(1);
         due.is("just enough soldiers", few.dynasty(2), 1);
+        few.crown(0);
+        due.is("none left: how many", few.dynasty(0), 0);
+        due.is("none left: minutes", few.dynasty(1), 0);
+        due.is("none left: set", few.dynasty(2), 0);
     }
 
     private static void liked() {
@@ -201,8 +205,28 @@ public final class TriedTest {
         EggThrones y = Due.toldOf("p3 0 9;e0 1;m0 9;m0 9;");
         y.put(0);
         y.takeOut(0);
+        due.is("one", y.liked(-1), 1);
         due.is("the lesser eater has it", y.liked(0), 0);
         due.is("nobody's last", y.liked(1), Due.NONE);
+        EggThrones z = Due.toldOf("p1 0 9;e0 1;m0 9;");
+        z.put(0);
+        z.takeOut(0);
+        due.is("one egg to one eater", z.liked(-1), 1);
+        // five eaters in a chain: each must take the next, since the last likes only the hardest
+        EggThrones chain = Due.toldOf("p1 0 30;" + "e0 1;".repeat(5) + "m5 15;m15 25;m25 35;m35 45;m45 45;");
+        for (int e = 0; e < 5; e++) {
+            Due.boil(chain, e, e + 1);
+        }
+        due.is("all five", chain.liked(-1), 5);
+        for (int m = 0; m < 5; m++) {
+            due.is("chain: of eater " + m, chain.liked(m), m);
+        }
+        chain.crown(0);
+        due.is("four of five", chain.liked(-1), 4);
+        int[] first = {1, 2, 3, 4, Due.NONE};
+        for (int m = 0; m < 5; m++) {
+            due.is("shorter chain: of eater " + m, chain.liked(m), first[m]);
+        }
     }
 
     private static void goose() {
@@ -223,6 +247,7 @@ public final class TriedTest {
             due.is("goose(1, " + far + ")", x.goose(1, far), Due.UNKNOWN);
             due.is("goose(" + far + ", 0)", x.goose(far, 0), Due.OUTSIDE);
         }
+        due.is("one eater", Due.toldOf("p1 0 1;m0 1;").goose(5, 0), 5);
         due.is("no eaters", Due.toldOf("p1 0 1;e0 1;").goose(5, 0), Due.UNKNOWN);
     }
 
