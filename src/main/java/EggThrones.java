@@ -458,12 +458,9 @@ public final class EggThrones {
             at = 0;
             faultNumber = FINE;
             faultAt = NONE;
-            if (count > 0) {
-                // a text of blanks alone is not empty: what it lacks is missed at its end
+            // a clause is looked for only where a letter is: blanks alone tell no TABLE, as no letters do
+            for (int i = 0; i < MOST_LETTERS && faultNumber == FINE && skipBlanks() != END; i++) {
                 readClause(table);
-                for (int i = 0; i < MOST_LETTERS && faultNumber == FINE && skipBlanks() != END; i++) {
-                    readClause(table);
-                }
             }
             return faultNumber;
         }

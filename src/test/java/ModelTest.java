@@ -88,6 +88,9 @@ public final class ModelTest {
     }
 
     private String badText() {
+        if (random.nextInt(8) == 0) {
+            return " ".repeat(random.nextInt(4));
+        }
         StringBuilder s = new StringBuilder(goodText());
         for (int i = random.nextInt(3); i >= 0 && s.length() > 0; i--) {
             int at = random.nextInt(s.length());

@@ -141,7 +141,7 @@ final class PlainKingdom {
         Map<String, int[][]> words = Map.of("p", new int[][] {{1, 3}, {0, 99}, {1, 30}},
                 "e", new int[][] {{0, 30}, {1, 5}}, "m", new int[][] {{0, 99}, {0, 99}});
         int i = 0;
-        while (i == 0 || !all.get(i).letters().isEmpty()) {
+        while (!all.get(i).letters().isEmpty()) {
             Token word = all.get(i);
             if (!words.containsKey(word.letters()) || i == 0 && !word.letters().equals("p")) {
                 return new Fault(word.at(), 1);
@@ -181,7 +181,7 @@ final class PlainKingdom {
         int[] newPan = {0, 0, 0};
         List<Egg> newEggs = new ArrayList<>();
         List<Eater> newEaters = new ArrayList<>();
-        Fault found = text.isEmpty() ? null : read(text, newPan, newEggs, newEaters);
+        Fault found = read(text, newPan, newEggs, newEaters);
         text = "";
         fault = found == null ? NONE : found.at();
         if (found != null) {

@@ -9,7 +9,10 @@ public final class TableTest {
         blanksAndBounds();
         tableStartsAnew();
         faultChangesNothing();
-        emptyTextTakesTheTableAway();
+        textWithoutClausesTakesTheTableAway("");
+        textWithoutClausesTakesTheTableAway(" ");
+        textWithoutClausesTakesTheTableAway(" ".repeat(240));
+        blanksAloneTellNoTable();
         told();
         egg();
         eater();
@@ -88,7 +91,8 @@ public final class TableTest {
         fault("1", 1, 0);
         fault("P1 0 1;", 1, 0);
         fault("\t", 1, 0);
-        fault("   ", 1, 3);
+        fault("   x", 1, 3);
+        fault("   \0", 1, 3);
         fault("p", 1, 1);
         fault("p ", 1, 2);
         fault("p1", 1, 2);
@@ -209,20 +213,41 @@ public final class TableTest {
         due.is("fault() of nothing", x.fault(), Due.NONE);
     }
 
-    private static void emptyTextTakesTheTableAway() {
+    private static void textWithoutClausesTakesTheTableAway(String text) {
+        String name = text.length() + " blanks: ";
         EggThrones x = Due.toldOf(Due.USUAL);
+        x.seed(77);
         x.see(1, 1);
-        x.minute(1);
+        x.write(0, 0);
         x.keep(0);
-        due.is("empty: table()", x.table(), 0);
+        Due.boil(x, 0, 3);
+        x.crown(0);
+        x.minute(1);
+        Due.tell(x, "x");
+        due.is(name + "table()", Due.tell(x, text), 0);
+        due.is(name + "fault() behind a fault", x.fault(), Due.NONE);
         for (int what = 0; what <= 17; what++) {
-            due.is("empty: told(" + what + ")", x.told(what), what == 7 || what == 14 ? -1 : 0);
+            due.is(name + "told(" + what + ")", x.told(what), what == 7 || what == 14 ? -1 : 0);
         }
-        due.is("empty: minute(1)", x.minute(1), Due.NOT);
-        due.is("empty: egg(0, 0)", x.egg(0, 0), Due.UNKNOWN);
-        due.is("empty: eater(0, 0)", x.eater(0, 0), Due.UNKNOWN);
-        due.is("empty: goBack(0)", x.goBack(0), Due.NOT);
-        due.is("empty: ages()", x.ages(), Integer.MAX_VALUE);
+        due.is(name + "minute(1)", x.minute(1), Due.NOT);
+        due.is(name + "undo()", x.undo(), Due.NOT);
+        due.is(name + "egg(0, 0)", x.egg(0, 0), Due.UNKNOWN);
+        due.is(name + "eater(0, 0)", x.eater(0, 0), Due.UNKNOWN);
+        due.is(name + "goBack(0)", x.goBack(0), Due.NOT);
+        due.is(name + "ages()", x.ages(), Integer.MAX_VALUE);
+        due.is(name + "judge()", x.judge(), Due.NONE);
+        due.is(name + "the seed stays", x.seed(1), 77);
+        due.is(name + "a table behind it", Due.tell(x, "p1 0 1;e0 1;"), 1);
+    }
+
+    private static void blanksAloneTellNoTable() {
+        for (int many = 1; many <= 240; many++) {
+            EggThrones x = new EggThrones();
+            due.is("table of " + many + " blanks", Due.tell(x, " ".repeat(many)), 0);
+            due.is("fault of " + many + " blanks", x.fault(), Due.NONE);
+            due.is("told(0) of " + many + " blanks", x.told(0), 0);
+            due.is("cutToast(1) of " + many + " blanks", x.cutToast(1), Due.NOT);
+        }
     }
 
     private static void told() {
