@@ -285,21 +285,30 @@ public final class DoneTest {
         due.is("the seed stays", x.seed(0), 5);
     }
 
-    private static void undoOfEach() {
+    private static EggThrones behindSteps(int steps) {
         EggThrones x = Due.toldOf("p3 9 4;e3 1;e10 2;e0 3;e30 5;");
         x.seed(11);
-        String[] before = new String[20];
-        int kept = 0;
-        for (int step = 0; step < 20; step++) {
-            before[kept] = Due.morningOf(x);
-            if (doStep(x, step) >= 0) {
-                kept++;
-            }
-            due.is("kept behind step " + step, x.told(17), kept);
+        for (int step = 0; step < steps; step++) {
+            doStep(x, step);
         }
-        for (int i = kept - 1; i >= 0; i--) {
+        return x;
+    }
+
+    /** What was so ahead of a step is asked of another object, as one is used for 512 calls at most. */
+    private static void undoOfEach() {
+        EggThrones x = behindSteps(0);
+        int[] kept = new int[17];
+        int count = 0;
+        for (int step = 0; step < kept.length; step++) {
+            kept[count] = step;
+            if (doStep(x, step) >= 0) {
+                count++;
+            }
+            due.is("kept behind step " + step, x.told(17), count);
+        }
+        for (int i = count - 1; i >= 0; i--) {
             due.is("undo()", x.undo(), i);
-            due.same("undone", Due.morningOf(x), before[i]);
+            due.same("undone", Due.morningOf(x), Due.morningOf(behindSteps(kept[i])));
         }
     }
 

@@ -1,5 +1,13 @@
+import java.util.function.Supplier;
+import java.util.function.ToIntFunction;
+
 /** What the tests share: a count of wrong answers, and objects that have been told a text. */
 final class Due {
+    /** A call with one number left open. */
+    interface Asked {
+        int on(EggThrones x, int number);
+    }
+
     static final int NONE = EggThrones.NONE;
     static final int UNKNOWN = EggThrones.UNKNOWN;
     static final int OUTSIDE = EggThrones.OUTSIDE;
@@ -19,6 +27,14 @@ final class Due {
             wrong++;
             System.out.println(call + " answered " + got + ", due is " + want);
         }
+    }
+
+    int asked() {
+        return asked;
+    }
+
+    int wrong() {
+        return wrong;
     }
 
     void end(String name) {
@@ -78,7 +94,7 @@ final class Due {
         for (int m = 0; m < x.told(4); m++) {
             all.append(x.eater(m, 0)).append(' ').append(x.eater(m, 1)).append(' ');
         }
-        all.append(x.fault()).append(' ').append(x.ages()).append(' ').append(x.judge());
+        all.append("fault ").append(x.fault()).append(' ').append(x.ages()).append(' ').append(x.judge());
         return all.toString();
     }
 
@@ -87,6 +103,51 @@ final class Due {
         if (!got.equals(want)) {
             wrong++;
             System.out.println(what + ": is " + got + ", due is " + want);
+        }
+    }
+
+    /** All that is in it, also what only later calls would show: it is used up by this. */
+    static String drained(EggThrones x) {
+        StringBuilder all = new StringBuilder(allOf(x));
+        for (int what = 0; what <= 2; what++) {
+            all.append(' ').append(x.dynasty(what));
+        }
+        for (int m = -1; m < x.told(4); m++) {
+            all.append(' ').append(x.liked(m));
+        }
+        all.append(' ').append(x.testNext()).append(" seed ").append(x.seed(0));
+        int more = 0;
+        while (more != NOT) {
+            more = x.undo();
+            all.append(" undo ").append(more).append(' ').append(more == NOT ? "" : morningOf(x));
+        }
+        for (int i = 0; i < 2; i++) {
+            all.append(" image ").append(x.goBack(i)).append(' ').append(morningOf(x)).append(x.seed(0));
+        }
+        all.append(" text ").append(x.table()).append(' ').append(x.fault()).append(' ').append(x.told(3));
+        return all.toString();
+    }
+
+    /** The call is refused so, and nothing is changed by it. */
+    void refused(String call, Supplier<EggThrones> made, ToIntFunction<EggThrones> deed, int refusal) {
+        EggThrones x = made.get();
+        is(call, deed.applyAsInt(x), refusal);
+        same(call + " changes nothing", drained(x), drained(made.get()));
+    }
+
+    /** The call is refused so for each number out of the bounds, and not for the bounds. */
+    void bounds(String call, Asked asked, int least, int most, int refusal) {
+        for (int number : new int[] {least, most}) {
+            int answer = asked.on(States.busy(), number);
+            is(call + " of " + number + " is " + answer, answer == refusal ? 1 : 0, 0);
+        }
+        long[] numbers = {least - 1L, most + 1L, least - 2L, most + 2L, Integer.MIN_VALUE, Integer.MIN_VALUE + 1L, -1000000000,
+            -2, 1000, 65536, 1000000000, Integer.MAX_VALUE - 1L, Integer.MAX_VALUE};
+        for (long number : numbers) {
+            boolean isInt = number >= Integer.MIN_VALUE && number <= Integer.MAX_VALUE;
+            if (isInt && (number < least || number > most)) {
+                refused(call + " of " + number, States::busy, x -> asked.on(x, (int) number), refusal);
+            }
         }
     }
 }

@@ -1,0 +1,16 @@
+/** Each sentence of the document that names a boundary case, with a test of its own, in the document's order. */
+public final class SentencesTest {
+    public static void main(String[] args) {
+        Sentences s = new Sentences();
+        TermsSentences.all(s);
+        TableSentences.all(s);
+        MorningSentences.all(s);
+        TriedSentences.all(s);
+        SeenSentences.all(s);
+        TableSentences.promises(s);
+        MorningSentences.promises(s);
+        TriedSentences.promises(s);
+        SeenSentences.promises(s);
+        s.end("SentencesTest");
+    }
+}
