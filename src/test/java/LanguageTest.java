@@ -1,3 +1,4 @@
+import java.lang.reflect.Array;
 import java.lang.reflect.Constructor;
 import java.lang.reflect.Field;
 import java.lang.reflect.Method;
@@ -5,13 +6,16 @@ import java.lang.reflect.Modifier;
 import java.nio.file.Files;
 import java.nio.file.Path;
 import java.util.Arrays;
+import java.util.IdentityHashMap;
 import java.util.Set;
 import java.util.TreeSet;
+import java.util.regex.Matcher;
 import java.util.regex.Pattern;
 
 /** The public face, and the rules of LANGUAGE.md that can be read off the file or the class. */
 public final class LanguageTest {
     private static final Due due = new Due();
+    private static final Set<String> LIBRARY = Set.of("Math.min", "Math.max", "Integer.bitCount", "System.arraycopy");
     private static final String[] FACE = {"feed 1", "table 0", "fault 0", "told 1", "egg 2", "eater 2", "minute 1",
         "put 1", "takeOut 1", "crown 1", "cutToast 1", "drift 1", "undo 0", "wish 2", "needs 2", "allBoiled 2",
         "dynasty 1", "liked 1", "goose 2", "whole 2", "see 2", "ages 0", "testNext 0", "write 2", "tear 0", "judge 0",
@@ -21,7 +25,11 @@ public final class LanguageTest {
         face();
         constants();
         classesInside();
+        parameters();
         source();
+        library();
+        madeInConstructors();
+        room();
         due.end("LanguageTest");
     }
 
@@ -79,12 +87,93 @@ public final class LanguageTest {
         }
     }
 
+    private static Class<?>[] classes() {
+        Class<?>[] inside = EggThrones.class.getDeclaredClasses();
+        Class<?>[] all = Arrays.copyOf(inside, inside.length + 1);
+        all[inside.length] = EggThrones.class;
+        return all;
+    }
+
+    private static void parameters() {
+        for (Class<?> c : classes()) {
+            for (Method m : c.getDeclaredMethods()) {
+                due.is(m + " takes at most seven", m.getParameterCount() <= 7 ? 1 : 0, 1);
+            }
+            for (Constructor<?> made : c.getDeclaredConstructors()) {
+                due.is(made + " takes at most seven", made.getParameterCount() <= 7 ? 1 : 0, 1);
+            }
+        }
+    }
+
+    private static String code() throws Exception {
+        String all = Files.readString(Path.of("src/main/java/EggThrones.java"));
+        return all.replaceAll("(?s)/\\*.*?\\*/", " ").replaceAll("//[^\n]*", " ");
+    }
+
+    /** All words with a capital that stand ahead of a point or behind 'new' are the file's own, or of the library's few. */
+    private static void library() throws Exception {
+        Set<String> own = new TreeSet<>();
+        for (Class<?> c : classes()) {
+            own.add(c.getSimpleName());
+        }
+        Matcher used = Pattern.compile("\\b([A-Z][a-z]\\w*)\\.(\\w+)").matcher(code());
+        while (used.find()) {
+            boolean isFine = own.contains(used.group(1)) || LIBRARY.contains(used.group());
+            due.is("the file uses " + used.group(), isFine ? 1 : 0, 1);
+        }
+        Matcher made = Pattern.compile("\\bnew\\s+(\\w+)").matcher(code());
+        while (made.find()) {
+            boolean isFine = own.contains(made.group(1)) || made.group(1).matches("int|boolean");
+            due.is("the file has " + made.group(), isFine ? 1 : 0, 1);
+        }
+    }
+
+    /** What is made in constructors alone is made once: so no run of calls can fill the room (this file's own rule). */
+    private static void madeInConstructors() throws Exception {
+        String header = "";
+        for (String line : code().split("\n")) {
+            if (line.matches("(    |        )[^ /}].*\\) \\{")) {
+                header = line.strip();
+            }
+            if (Pattern.compile("\\bnew\\b").matcher(line).find()) {
+                due.is("in a constructor: " + line.strip(), header.matches("(public )?[A-Z]\\w*\\([^)]*\\) \\{") ? 1 : 0, 1);
+            }
+        }
+    }
+
+    /** An object with all that hangs on it: some thousands of them must find room in one run. */
+    private static void room() throws Exception {
+        IdentityHashMap<Object, Object> found = new IdentityHashMap<>();
+        int elements = count(new EggThrones(), found);
+        due.is("objects: " + found.size(), found.size() <= 60 ? 1 : 0, 1);
+        due.is("fields and elements: " + elements, elements <= 1200 ? 1 : 0, 1);
+    }
+
+    private static int count(Object o, IdentityHashMap<Object, Object> found) throws Exception {
+        if (o == null || found.put(o, o) != null) {
+            return 0;
+        }
+        if (o.getClass().isArray()) {
+            due.is("an array of numbers", o.getClass().getComponentType().isPrimitive() ? 1 : 0, 1);
+            return Array.getLength(o);
+        }
+        int elements = 0;
+        for (Field f : o.getClass().getDeclaredFields()) {
+            if (!Modifier.isStatic(f.getModifiers())) {
+                f.setAccessible(true);
+                elements += 1 + (f.getType().isPrimitive() ? 0 : count(f.get(o), found));
+            }
+        }
+        return elements;
+    }
+
     private static void source() throws Exception {
         String all = Files.readString(Path.of("src/main/java/EggThrones.java"));
-        String code = all.replaceAll("(?s)/\\*.*?\\*/", " ").replaceAll("//[^\n]*", " ");
+        String code = code();
         String[] ruledOut = {"\\bthrow\\b", "\\bthrows\\b", "\\btry\\b", "\\bcatch\\b", "\\bsynchronized\\b", "\\bassert\\b",
             "->", "::", "\\bimport\\b", "\\bpackage\\b", "\\bprotected\\b", "Exact\\b", "\\bnew\\s+\\w+\\s*\\(\\s*\\)\\s*\\{",
-            "\\bstatic\\s*\\{", "\\bSystem\\.(?!arraycopy\\b)", "\\bhashCode\\b", "\\btoString\\b", "\\bRandom\\b", "\\bThread\\b"};
+            "\\bstatic\\s*\\{", "\\bSystem\\.(?!arraycopy\\b)", "\\bhashCode\\b", "\\btoString\\b", "\\bRandom\\b", "\\bThread\\b",
+            "\\bwhile\\s*\\(\\s*true", "\\bfor\\s*\\(\\s*;"};
         for (String pattern : ruledOut) {
             due.is("the file has " + pattern, Pattern.compile(pattern).matcher(code).find() ? 1 : 0, 0);
         }

@@ -13,6 +13,7 @@ final class MorningSentences {
         s.holds("BOILED are the MINUTES that it was in the PAN, also in parts.", MorningSentences::boiled);
         s.holds("HARD: 10 times BOILED, less 5 times SIZE, and A / 3 (0 at least, 99 at most).", MorningSentences::hard);
         s.holds("REIGN: 1, and HARD / 10, and SIZE, MINUTES.", MorningSentences::reign);
+        s.holds("A MINUTE:", MorningSentences::oneMinute);
         s.holds("each EGG in the PAN is BOILED one more; if that is above B it is CRACKED (out of the PAN).",
                 MorningSentences::cracked);
         s.holds("Then, if there is a KING:", MorningSentences::minuteWithoutKing);
@@ -169,6 +170,39 @@ final class MorningSentences {
         parts.put(0);
         parts.minute(1);
         due.is("a crack in parts", parts.egg(0, 2), 5);
+    }
+
+    /** One minute is one for the eggs in the pan, for the king and for the count, and for no other egg. */
+    private static void oneMinute(Due due) {
+        EggThrones x = Due.toldOf("p2 9 3;e0 1;e0 1;e0 1;e0 1;e0 1;");
+        for (int e = 0; e < 2; e++) {
+            Due.boil(x, e, 2);
+        }
+        x.crown(0);
+        x.put(2);
+        x.put(3);
+        int[] boiled = {2, 2, 1, 1, 0};
+        int[] states = {3, 2, 1, 1, 0};
+        due.is("minute(1)", x.minute(1), 5);
+        for (int e = 0; e < 5; e++) {
+            due.is("BOILED of " + e, x.egg(e, 3), boiled[e]);
+            due.is("what is " + e, x.egg(e, 2), states[e]);
+        }
+        due.is("SOLDIERS", x.told(1), 7);
+        due.is("MINUTES that he has yet", x.told(8), 2);
+        EggThrones y = Due.toldOf("p2 9 3;e0 1;e0 1;e0 1;");
+        EggThrones z = Due.toldOf("p2 9 3;e0 1;e0 1;e0 1;");
+        for (EggThrones one : new EggThrones[] {y, z}) {
+            one.put(0);
+            one.takeOut(0);
+            one.crown(0);
+            one.put(1);
+        }
+        for (int i = 0; i < 7; i++) {
+            y.minute(1);
+        }
+        z.minute(7);
+        due.same("seven are as one and one", Due.morningOf(z), Due.morningOf(y));
     }
 
     private static void minuteWithoutKing(Due due) {

@@ -16,7 +16,7 @@ final class SeenSentences {
         s.holds("of like ones the least; NONE: none parts them.", SeenSentences::testNextOfLikeOnes);
         s.holds("THE BOOK (15 at most) tells what EGGS are (0 .. 5):", SeenSentences::fifteenEntries);
         s.holds("WRONG: the first that is otherwise now; NONE.", SeenSentences::wrong);
-        s.holds("THE SEED (0 at first: each DRAW it becomes it times 1103515245 and 12345, left over by 2 to the 31;",
+        s.holds("BY DRAWS: THE SEED (0 at first: each DRAW it becomes it times 1103515245 and 12345, left over by 2 to the 31;",
                 SeenSentences::seedOfDraws);
         s.holds("the DRAW of n is it / 65536, left over by n)", SeenSentences::draws);
         s.holds("n MINUTES: ahead of each, if there are EGGS, a DRAW of EGGS, of 3:", SeenSentences::twoDrawsAheadOfEach);

@@ -6,20 +6,14 @@ import java.util.BitSet;
 import java.util.LinkedHashMap;
 import java.util.Map;
 import java.util.function.Consumer;
-import java.util.regex.Matcher;
-import java.util.regex.Pattern;
 
 /**
  * Runs a test for each sentence of the document, told by its words. The words must stand in the
- * document, once under their heading, and no word there that names a boundary may be left without a
- * test: so a sentence that is changed, or comes in, is not passed over.
+ * document, once under their heading, and no word there, from the first heading to the last, may be
+ * left without a test: so a sentence that is changed, or comes in, is not passed over.
  */
 final class Sentences {
     private static final Path DOCUMENT = Path.of("../shared/DOC.md");
-    private static final Pattern BOUNDARY = Pattern.compile("UNKNOWN|OUTSIDE|\\bNOT\\b|FULL\\b|\\bNONE\\b|\\.\\.|at most|at least"
-            + "|empty|\\bfull\\b|no TABLE|[Nn]othing|\\bnone\\b|\\bnobody|or more|or less|no more|fewer|fewest|above|below|longer"
-            + "|longest|\\bmost\\b|\\bleast\\b|the first|at first|\\blost\\b|\\bgone\\b|left over|\\bcut\\b|\\bcuts\\b|\\(0\\)|Without|\\bif\\b");
-
     private final Map<String, String> texts = new LinkedHashMap<>();
     private final Map<String, BitSet> tested = new LinkedHashMap<>();
     private String heading = "";
@@ -48,7 +42,7 @@ final class Sentences {
     }
 
     private static String flat(String text) {
-        return text.replaceAll("\\s+", " ").strip();
+        return text.replaceAll("```\\w*", " ").replaceAll("\\s+", " ").strip();
     }
 
     void in(String name) {
@@ -65,6 +59,14 @@ final class Sentences {
         tests++;
         if (due.wrong() > 0 || due.asked() == 0) {
             fault("does not hold: " + words);
+        }
+    }
+
+    /** Words that no call can show, and why. */
+    void free(String words, String why) {
+        lookUp(words);
+        if (why.isBlank()) {
+            fault("free, but why? " + words);
         }
     }
 
@@ -89,13 +91,16 @@ final class Sentences {
     private void lookForUntested() {
         for (String name : texts.keySet()) {
             heading = name;
-            Matcher m = BOUNDARY.matcher(texts.get(name));
-            while ((name.equals("Terms") || name.startsWith("Promise")) && m.find()) {
-                if (tested.get(name).nextClearBit(m.start()) < m.end()) {
-                    String text = texts.get(name);
-                    int from = Math.max(0, m.start() - 30);
-                    fault("has no test: .." + text.substring(from, Math.min(text.length(), m.end() + 20)) + "..");
+            String text = texts.get(name);
+            int from = tested.get(name).nextClearBit(0);
+            while (from < text.length()) {
+                int next = tested.get(name).nextSetBit(from);
+                int end = next < 0 ? text.length() : next;
+                String words = text.substring(from, end).strip();
+                if (words.chars().anyMatch(Character::isLetterOrDigit)) {
+                    fault("has no test: " + words);
                 }
+                from = tested.get(name).nextClearBit(end);
             }
         }
     }

@@ -14,13 +14,16 @@ final class TableSentences {
     static void all(Sentences s) {
         s.in("Terms");
         s.holds("THE TABLE is told in a text (240 letters at most)", TableSentences::longestText);
+        s.holds(": clauses: 'p' R T B ';'", TableSentences::clauseOfThePan);
         s.holds("(the PAN holds R EGGS, 1 .. 3;", TableSentences::placesOfThePan);
         s.holds("T SOLDIERS of TOAST, 0 .. 99;", due -> numbers(due, PLACES[1]));
         s.holds("an EGG that boils longer than B MINUTES cracks, 1 .. 30;", TableSentences::minutesToCrack);
         s.holds("first, once)", TableSentences::panFirstAndOnce);
+        s.holds("'e' A Z ';'", due -> clauseOfTwo(due, 'e'));
         s.holds("(7 EGGS at most:", TableSentences::sevenEggs);
         s.holds("A days old, 0 .. 30;", due -> numbers(due, PLACES[3]));
         s.holds("SIZE Z, 1 .. 5)", due -> numbers(due, PLACES[4]));
+        s.holds("'m' L H ';'", due -> clauseOfTwo(due, 'm'));
         s.holds("(5 EATERS at most:", TableSentences::fiveEaters);
         s.holds("like EGGS that are L or more HARD, H or less,", TableSentences::likings);
         s.holds("0 .. 99, L no more than H)", TableSentences::likingsInBounds);
@@ -57,14 +60,18 @@ final class TableSentences {
         s.in("Promise 5: told");
         s.holds("0 R, 1 SOLDIERS, 2 B, 3 EGGS, 4 EATERS, 5 letters of THE TEXT,", TableSentences::toldOfTheTable);
         s.holds("6 MINUTES, 7 KING (NONE), 8 MINUTES that he has yet (0),", TableSentences::toldOfTheKing);
+        s.holds("9 REIGNED, 10 how many were SCRAPED,", TableSentences::toldOfReigns);
         s.holds("11 EGGS in the PAN, 12 OUT, 13 PRETENDERS (SETS), 14 HEIR,", TableSentences::toldOfSets);
         s.holds("15 what is SEEN, 16 entries of THE BOOK, 17 how many can be undone.", TableSentences::toldOfCounts);
         s.holds("OUTSIDE.", due -> due.bounds("told(n)", (x, n) -> x.told(n), 0, 17, Due.OUTSIDE));
         s.in("Promise 6: egg");
+        s.holds("Of an EGG: what = 0 A, 1 Z,", TableSentences::ageAndSize);
         s.holds("2 what it is (0 .. 5),", TableSentences::whatAnEggIs);
+        s.holds("3 BOILED, 4 HARD, 5 REIGN as it is, 6 its WISH.", TableSentences::howAnEggIs);
         s.holds("UNKNOWN,", due -> due.bounds("egg(n, 0)", (x, n) -> x.egg(n, 0), 0, 3, Due.UNKNOWN));
         s.holds(" OUTSIDE.", due -> due.bounds("egg(3, n)", (x, n) -> x.egg(3, n), 0, 6, Due.OUTSIDE));
         s.in("Promise 7: eater");
+        s.holds("Of an EATER: what = 0 L, 1 H.", TableSentences::likingOfAnEater);
         s.holds("UNKNOWN,", due -> due.bounds("eater(n, 0)", (x, n) -> x.eater(n, 0), 0, 2, Due.UNKNOWN));
         s.holds(" OUTSIDE.", due -> due.bounds("eater(2, n)", (x, n) -> x.eater(2, n), 0, 1, Due.OUTSIDE));
     }
@@ -124,6 +131,44 @@ final class TableSentences {
         faulty(due, "p1 0 1;" + " ".repeat(229) + "e0 1;", 1, 240);
         fine(due, "p1 0 1;" + " ".repeat(233) + "x", 0);
         faulty(due, "p1 0 1;" + " ".repeat(232) + "x", 1, 239);
+    }
+
+    private static void clauseOfThePan(Due due) {
+        EggThrones x = Due.toldOf("p2 7 9;");
+        for (int what = 0; what <= 2; what++) {
+            due.is("told(" + what + ")", x.told(what), new int[] {2, 7, 9}[what]);
+        }
+        faulty(due, "p;", 1, 1);
+        faulty(due, "p2;", 1, 2);
+        faulty(due, "p2 7;", 1, 4);
+        faulty(due, "p2 7 9 9;", 1, 7);
+        faulty(due, "p2 7 9", 1, 6);
+        faulty(due, "p2 7 9,", 1, 6);
+        faulty(due, "p2,7 9;", 1, 2);
+        faulty(due, "P2 7 9;", 1, 0);
+        faulty(due, "2 7 9;", 1, 0);
+        faulty(due, "p2 7 9;;", 1, 7);
+    }
+
+    /** The clauses of an egg and of an eater: a word, two numbers, the end. */
+    private static void clauseOfTwo(Due due, char word) {
+        String pan = "p1 0 1;" + word;
+        EggThrones x = Due.toldOf(pan + "3 5;");
+        due.is("EGGS", x.told(3), word == 'e' ? 1 : 0);
+        due.is("EATERS", x.told(4), word == 'm' ? 1 : 0);
+        due.is("the first number", word == 'e' ? x.egg(0, 0) : x.eater(0, 0), 3);
+        due.is("the second number", word == 'e' ? x.egg(0, 1) : x.eater(0, 1), 5);
+        faulty(due, pan + ";", 1, 8);
+        faulty(due, pan + "3;", 1, 9);
+        faulty(due, pan + "3 5 5;", 1, 12);
+        faulty(due, pan + "3 5", 1, 11);
+        faulty(due, pan + "3 5" + word, 1, 11);
+        faulty(due, pan + "3 5 p", 1, 12);
+        faulty(due, pan + "3-5;", 1, 9);
+        faulty(due, pan + "-3 5;", 1, 8);
+        faulty(due, pan + word + "3 5;", 1, 8);
+        faulty(due, "p1 0 1;" + Character.toUpperCase(word) + "3 5;", 1, 7);
+        faulty(due, "p1 0 1;3 5;", 1, 7);
     }
 
     private static void placesOfThePan(Due due) {
@@ -546,6 +591,26 @@ final class TableSentences {
         due.is("MINUTES", x.told(6), 2);
     }
 
+    private static void toldOfReigns(Due due) {
+        EggThrones x = Due.toldOf("p3 99 9;e0 1;e0 1;e0 2;");
+        int reigned = 0;
+        for (int e = 0; e < 3; e++) {
+            x.put(e);
+            x.takeOut(e);
+            int reign = x.crown(e);
+            for (int passed = 1; passed <= reign; passed++) {
+                due.is("SCRAPED ahead of the end", x.told(10), e);
+                x.minute(1);
+                reigned++;
+                due.is("REIGNED", x.told(9), reigned);
+            }
+            due.is("SCRAPED", x.told(10), e + 1);
+            x.minute(2);
+            due.is("REIGNED without a KING", x.told(9), reigned);
+        }
+        due.is("REIGNED by all", reigned, 7);
+    }
+
     private static void toldOfSets(Due due) {
         EggThrones x = Due.toldOf("p3 99 30;" + "e0 1;".repeat(6) + "e0 5;");
         for (int what = 11; what <= 13; what++) {
@@ -575,6 +640,48 @@ final class TableSentences {
             x.see(1, 1);
             x.write(0, 0);
             x.cutToast(1);
+        }
+    }
+
+    private static void ageAndSize(Due due) {
+        EggThrones x = Due.toldOf("p1 0 1;e0 5;e30 1;e7 4;e4 2;e29 3;e1 1;e15 5;");
+        int[] ages = {0, 30, 7, 4, 29, 1, 15};
+        int[] sizes = {5, 1, 4, 2, 3, 1, 5};
+        for (int e = 0; e < 7; e++) {
+            due.is("A of " + e, x.egg(e, 0), ages[e]);
+            due.is("Z of " + e, x.egg(e, 1), sizes[e]);
+        }
+    }
+
+    private static void howAnEggIs(Due due) {
+        EggThrones x = Due.toldOf("p2 99 9;e7 2;e0 1;");
+        x.wish(0, 7);
+        x.put(0);
+        for (int boiled = 0; boiled <= 9; boiled++) {
+            int hard = Math.max(0, 10 * boiled - 8);
+            due.is("BOILED", x.egg(0, 3), boiled);
+            due.is("HARD", x.egg(0, 4), hard);
+            due.is("REIGN", x.egg(0, 5), 3 + hard / 10);
+            due.is("its WISH", x.egg(0, 6), 7);
+            x.minute(1);
+        }
+        due.is("CRACKED, BOILED", x.egg(0, 3), 10);
+        due.is("CRACKED, HARD", x.egg(0, 4), 92);
+        Due.boil(x, 1, 2);
+        x.crown(1);
+        x.minute(1);
+        due.is("of a KING the REIGN as it is, not what he has yet", x.egg(1, 5), 3);
+        due.is("what he has yet", x.told(8), 2);
+        due.is("the other's WISH", x.egg(1, 6), 1);
+    }
+
+    private static void likingOfAnEater(Due due) {
+        EggThrones x = Due.toldOf("p1 0 1;m0 0;m99 99;m0 99;m7 8;m50 60;");
+        int[] softest = {0, 99, 0, 7, 50};
+        int[] hardest = {0, 99, 99, 8, 60};
+        for (int m = 0; m < 5; m++) {
+            due.is("L of " + m, x.eater(m, 0), softest[m]);
+            due.is("H of " + m, x.eater(m, 1), hardest[m]);
         }
     }
 

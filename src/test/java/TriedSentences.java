@@ -29,7 +29,7 @@ final class TriedSentences {
         s.holds("LIKED: EGGS that are OUT to EATERS who like them, one each: most;", TriedSentences::likedByMost);
         s.holds("of like ones the first (EATER by EATER the lesser EGG, nobody's last): how many; the EGG of an EATER; NONE.",
                 TriedSentences::likedByTheFirst);
-        s.holds("GOOSE: n spoons (0 .. 999) to all EATERS alike, what is left over one each to the lesser ones:",
+        s.holds("GOOSE: n spoons (0 .. 999) to all EATERS alike, what is left over one each to the lesser ones: what an EATER gets.",
                 TriedSentences::goose);
         s.holds("WHOLE: odds that none of n (0 .. 60) cracks, each by q of a hundred:", TriedSentences::wholeInBounds);
         s.holds("a BILLION times (100 less q) / 100 each (cut).", TriedSentences::wholeIsCutEachTime);
@@ -41,16 +41,20 @@ final class TriedSentences {
         s.holds("UNKNOWN,", due -> due.bounds("needs(n, 1)", (x, n) -> x.needs(n, 1), 0, 3, Due.UNKNOWN));
         s.holds(" OUTSIDE.", due -> due.bounds("needs(3, n)", (x, n) -> x.needs(3, n), 1, 99, Due.OUTSIDE));
         s.in("Promise 17: allBoiled");
+        s.holds("ALL BOILED:", AllWays::boiled);
         s.holds("e = NONE how many MINUTES (the empty SET: 0), else the place; NONE.", TriedSentences::allBoiledOfTheEmptySet);
         s.holds("UNKNOWN,", TriedSentences::allBoiledUnknown);
         s.holds("NOT: no TABLE.", TriedSentences::allBoiledWithoutTable);
         s.in("Promise 18: dynasty");
+        s.holds("DYNASTY:", AllWays::dynasty);
         s.holds("what = 0 how many, 1 MINUTES, 2 the SET.", TriedSentences::dynastyOfNone);
         s.holds("OUTSIDE.", due -> due.bounds("dynasty(n)", (x, n) -> x.dynasty(n), 0, 2, Due.OUTSIDE));
         s.in("Promise 19: liked");
+        s.holds("LIKED:", AllWays::liked);
         s.holds("m = NONE how many, else an EGG; NONE.", TriedSentences::likedOfNone);
         s.holds("UNKNOWN.", TriedSentences::likedUnknown);
         s.in("Promise 20: goose");
+        s.holds("GOOSE.", AllWays::goose);
         s.holds("UNKNOWN,", TriedSentences::gooseUnknown);
         s.holds(" OUTSIDE.", due -> due.bounds("goose(n, 2)", (x, n) -> x.goose(n, 2), 0, 999, Due.OUTSIDE));
         s.in("Promise 21: whole");
